@@ -799,7 +799,7 @@ public final class ReadyBell {
         }
 
         /** The level counts sets within sets, which stand no deeper than the document lets them. */
-        int ready(int thing, int level) {
+        private int ready(int thing, int level) {
             int held = cells[HELD + thing];
             boolean lonely = cells[PARTNER + thing] < 0;
             switch (cells[KIND + thing]) {
@@ -923,7 +923,7 @@ public final class ReadyBell {
             }
         }
 
-        int deepBelow(int set, int level) {
+        private int deepBelow(int set, int level) {
             int count = cells[COUNT];
             int most = 1;
             for (int i = 0; i < count && level < DEEPEST; i++) {
@@ -934,7 +934,7 @@ public final class ReadyBell {
             return most;
         }
 
-        int deepAbove(int set, int level) {
+        private int deepAbove(int set, int level) {
             int count = cells[COUNT];
             int most = 1;
             for (int i = 0; i < count && level < DEEPEST; i++) {
@@ -1330,7 +1330,7 @@ public final class ReadyBell {
         }
 
         /** The level counts the sets that the notice has climbed, no more than stand in one another. */
-        void sendNotice(int thing, int bit, int level) {
+        private void sendNotice(int thing, int bit, int level) {
             if (thing < 0 || level > DEEPEST) {
                 return;
             }
@@ -1547,7 +1547,7 @@ public final class ReadyBell {
             return what >= 0 && what < TALLIES ? tally[what] : NONE;
         }
 
-        void explore(int level) {
+        private void explore(int level) {
             boolean went = false;
             for (int turn = 0; turn < 2 && level < LONGEST_PATH; turn++) {
                 int task = turn == 0 ? one : two;
