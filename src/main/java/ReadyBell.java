@@ -254,7 +254,7 @@ public final class ReadyBell {
     }
 
     public int add(int set, int handle, int mask, int how) {
-        return keptFrom(0, house.addInterest(set, handle, mask, how));
+        return keptFrom(1, house.addInterest(set, handle, mask, how));
     }
 
     public boolean change(int set, int handle, int mask, int how) {
@@ -793,13 +793,16 @@ public final class ReadyBell {
             return cells[MASK + i] | ENDED | BROKEN;
         }
 
-        /** The bits by which an interest is TRUE. */
+        /** The bits by which an interest is TRUE. (Deep down this is written out: calls go at most eight deep.) */
         int tells(int i) {
             return cells[ARMED + i] == 0 ? 0 : bitsOf(i) & ready(cells[AIM + i], 0);
         }
 
         /** The level counts sets within sets, which stand no deeper than the document lets them. */
         private int ready(int thing, int level) {
+            if (thing < 0 || level > DEEPEST) {
+                return 0;
+            }
             int held = cells[HELD + thing];
             boolean lonely = cells[PARTNER + thing] < 0;
             switch (cells[KIND + thing]) {
@@ -809,9 +812,6 @@ public final class ReadyBell {
                 case TIMER:
                 case LISTENER: return held > 0 ? IN : 0;
                 default: break;
-            }
-            if (level >= DEEPEST) {
-                return 0;
             }
             int count = cells[COUNT];
             for (int i = 0; i < count; i++) {

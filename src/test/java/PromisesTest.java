@@ -164,6 +164,15 @@ public final class PromisesTest {
         accept(0) = -1; close(14) = 1; accept(0) = 14; connect(0) = -1; close(15) = 1; connect(1) = 15
         about(6) = 28; close(2) = 1; connect(0) = -2; about(6) = 27
         """);
+    run(7, "twelve at all, whichever came first", """
+        set() = 0; listener(12, 1) = 1; close(0) = 1; connect(1) = 0; connect(1) = 2; connect(1) = 3; connect(1) = 4
+        connect(1) = 5; connect(1) = 6; listener(12, 1) = 7; connect(7) = 8; connect(7) = 9; connect(7) = 10
+        connect(7) = 11; connect(7) = 12; connect(7) = 13; connect(7) = -2; connect(1) = -2; close(1) = 1
+        connect(7) = 1; close(7) = 1; about(6) = 13; handle(1, 2) = 8
+        """);
+    run(10, "twelve that wait are GONE at once", "listener(12, 3) = 0\n" + connects(12) + """
+        about(6) = 25; close(0) = 1; about(6) = 12; handle(1, 2) = 8; handle(12, 2) = 8; write(12, 1) = -2
+        """);
     run(8, "who waited longest", """
         listener(3, 5) = 0; accept(0) = -2; about(4) = 1; connect(0) = 1; connect(0) = 2; write(2, 2) = 2
         accept(0) = 3; other(3) = 1; handle(0, 1) = 1; connect(0) = 4; accept(0) = 5; other(5) = 2; handle(5, 1) = 2
@@ -178,6 +187,12 @@ public final class PromisesTest {
         listener(3, 5) = 0; connect(0) = 1; write(1, 2) = 2; close(1) = 1; about(6) = 2; accept(0) = 1
         handle(1, 2) = 5; read(1, 9) = 2; read(1, 9) = -2; other(1) = -1
         """);
+  }
+
+  private static String connects(int many) {
+    StringBuilder text = new StringBuilder();
+    for (int h = 1; h <= many; h++) text.append("connect(0) = ").append(h).append("\n");
+    return text.toString();
   }
 
   private static void closing() {
@@ -396,6 +411,20 @@ public final class PromisesTest {
         listed(0) = 4; shows(0) = 3; collect(0, 0, 3) = 3; got(0, 2, 0) = 4; listed(0) = 3; interest(0, 2, 4) = -1
         collect(0, 0, 2) = 2; got(0, 0, 0) = 1; got(0, 1, 0) = 2; shown(0, 0) = 4; shown(0, 1) = 1; shown(0, 2) = 2
         """);
+    StringBuilder many = new StringBuilder("set() = 0; counter(0, false) = 1; counter(0, false) = 2; counter(0, false) = 3\n");
+    for (int thing = 1; thing <= 3; thing++) {
+      for (int h = 4; h < 12; h++) {
+        if (thing > 1) many.append("close(").append(h).append(") = 1\n");
+        many.append("twin(").append(thing).append(") = ").append(h).append("\n");
+        many.append("add(0, ").append(h).append(", 1, 0) = ").append((thing - 1) * 8 + h - 3).append("\n");
+      }
+    }
+    for (int thing = 1; thing <= 3; thing++) {
+      many.append("write(").append(thing).append(", 1) = 1; read(").append(thing).append(", 1) = 1\n");
+    }
+    many.append("about(1) = 24; listed(0) = 24; shows(0) = 0; change(0, 11, 2, 0) = 1; interest(0, 23, 4) = 23\n");
+    many.append("shows(0) = 1; collect(0, 0, 1) = 1; got(0, 0, 0) = 11; got(0, 0, 1) = 2; listed(0) = 1\n");
+    run(18, "the last of 24", many.toString());
     run(19, "what can't be", """
         set() = 0; counter(1, true) = 1; await(0, 1, 1, 0) = -1; await(0, 5, 1, 0) = -1; await(-1, 0, 1, 0) = -1
         await(6, 0, 1, 0) = -1; await(0, 0, 0, 0) = -1; await(0, 0, 9, 0) = -1; await(0, 0, 1, -1) = -1
@@ -624,7 +653,7 @@ public final class PromisesTest {
 
   private static void takingBack() {
     run(37, "image", """
-        image(0) = 0; image(1) = 0; image(2) = -1; image(-1) = -1; image(MAX) = -1; listener(2, 2) = 0; connect(0) = 1
+        image(0) = 0; image(1) = 0; image(2) = -1; image(-1) = -1; image(MAX) = -1; image(32) = -1; back(32) = -1; back(-32) = -1; back(MIN) = -1; listener(2, 2) = 0; connect(0) = 1
         image(1) = 3; about(4) = 2; undo() = 1; image(0) = 1; redo() = 1; about(6) = 3
         """);
     run(38, "back", """
