@@ -1,5 +1,3 @@
-import java.util.Arrays;
-
 /** A house of handles that can be read, written and waited for; ../shared/DOC.md says what each call does. */
 public final class ReadyBell {
     public static final int NONE = -1;
@@ -129,12 +127,18 @@ public final class ReadyBell {
 
     private static int[] emptyCells() {
         int[] made = new int[SIZE];
-        Arrays.fill(made, NAMES, NAMES + HANDLES, NONE);
-        Arrays.fill(made, KIND, KIND + THINGS, NONE);
-        Arrays.fill(made, WAITS_AT, WAITS_AT + THINGS, NONE);
-        Arrays.fill(made, SLEEPS_AT, SLEEPS_AT + TASKS, NONE);
-        Arrays.fill(made, UNTIL, UNTIL + TASKS, NONE);
+        fillWithNone(made, NAMES, HANDLES);
+        fillWithNone(made, KIND, THINGS);
+        fillWithNone(made, WAITS_AT, THINGS);
+        fillWithNone(made, SLEEPS_AT, TASKS);
+        fillWithNone(made, UNTIL, TASKS);
         return made;
+    }
+
+    private static void fillWithNone(int[] made, int column, int length) {
+        for (int k = column; k < column + length; k++) {
+            made[k] = NONE;
+        }
     }
 
     private static boolean between(int value, int least, int most) {
@@ -1540,7 +1544,9 @@ public final class ReadyBell {
             one = task;
             two = other;
             gotBefore = cells[TOTAL + one] + cells[TOTAL + two];
-            Arrays.fill(tally, 0);
+            for (int what = 0; what < TALLIES; what++) {
+                tally[what] = 0;
+            }
         }
 
         int tallyOf(int what) {

@@ -45,7 +45,7 @@ public final class LanguageTest {
       plan(int,int,int,int)int round(int,boolean)boolean rounds(int)int stuck()int soon(int)int calls(int,int)int
       image(int)int back(int)int forget(int)int step(int)int orders(int,int,int)int undo()boolean redo()boolean
       about(int)int""";
-  private static final Set<String> LIBRARY = Set.of("java.lang.System.arraycopy", "java.util.Arrays.fill",
+  private static final Set<String> LIBRARY = Set.of("java.lang.System.arraycopy",
       "java.lang.Math.min", "java.lang.Math.max", "java.lang.Object.<init>");
   private static int wrong = 0;
 
