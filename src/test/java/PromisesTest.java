@@ -1,69 +1,11 @@
-import java.lang.reflect.InvocationTargetException;
-import java.lang.reflect.Method;
-import java.util.ArrayList;
-import java.util.List;
-
-/**
- * The document's promises one by one: each run is a list of calls on a new object with the answers that are due
- * (true is 1, false is 0). A line may hold several calls; '#' begins a remark.
- */
+/** The document's promises one by one: each run is a list of calls on a new object with the answers that are due. */
 public final class PromisesTest {
   private static int wrong = 0;
-  private static int checked = 0;
   private static final boolean[] tested = new boolean[45];
 
   private static void run(int promise, String what, String calls) {
     tested[promise] = true;
-    ReadyBell x = new ReadyBell();
-    int number = 0;
-    for (String line : calls.split("\n")) {
-      String text = line.replaceAll("#.*", "");
-      for (String call : text.split(";")) {
-        if (call.isBlank()) continue;
-        number++;
-        String[] sides = call.split("=");
-        long due = Long.parseLong(sides[1].trim());
-        long got = answer(x, sides[0].trim());
-        checked++;
-        if (got != due) {
-          wrong++;
-          System.out.println("promise " + promise + " (" + what + "), call " + number + ": " + sides[0].trim()
-              + " answered " + got + ", due is " + due);
-        }
-      }
-    }
-    if (number > 512) throw new IllegalStateException("a run of more than 512 calls: " + what);
-  }
-
-  private static long answer(ReadyBell x, String call) {
-    String name = call.substring(0, call.indexOf('('));
-    String inner = call.substring(call.indexOf('(') + 1, call.indexOf(')')).trim();
-    List<Object> given = new ArrayList<>();
-    if (!inner.isEmpty()) {
-      for (String part : inner.split(",")) given.add(value(part.trim()));
-    }
-    try {
-      for (Method m : ReadyBell.class.getDeclaredMethods()) {
-        if (m.getName().equals(name) && m.getParameterCount() == given.size() && java.lang.reflect.Modifier.isPublic(m.getModifiers())) {
-          Object answer = m.invoke(x, given.toArray());
-          return answer instanceof Boolean b ? (b ? 1 : 0) : ((Number) answer).longValue();
-        }
-      }
-    } catch (InvocationTargetException e) {
-      System.out.println(call + " threw " + e.getCause());
-      return Long.MIN_VALUE;
-    } catch (IllegalAccessException e) {
-      throw new IllegalStateException(e);
-    }
-    throw new IllegalStateException("no such call: " + call);
-  }
-
-  private static Object value(String part) {
-    if (part.equals("true")) return true;
-    if (part.equals("false")) return false;
-    if (part.equals("MAX")) return Integer.MAX_VALUE;
-    if (part.equals("MIN")) return Integer.MIN_VALUE;
-    return Integer.valueOf(part);
+    wrong += Runs.wrongIn("promise " + promise + " (" + what + ")", calls);
   }
 
   public static void main(String[] args) {
@@ -88,7 +30,7 @@ public final class PromisesTest {
       wrong++;
       System.out.println("NONE is not -1");
     }
-    System.out.println(checked + " answers, " + wrong + " of them not as due");
+    System.out.println(Runs.answersSoFar() + " answers, " + wrong + " of them not as due");
     if (wrong != 0) System.exit(1);
   }
 
