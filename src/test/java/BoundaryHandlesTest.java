@@ -1,19 +1,6 @@
-import java.io.IOException;
-
 /** Boundary cases of the promises 1 to 14: handles, what they name, bytes and time. */
-public final class BoundaryHandlesTest {
-  private static Edges edges;
-
-  private static void edge(int promise, String words, String script) {
-    edges.edge(promise, words, script);
-  }
-
-  private static String each(int from, int to, String text) {
-    return Edges.each(from, to, text);
-  }
-
-  public static void main(String[] args) throws IOException {
-    edges = new Edges();
+public final class BoundaryHandlesTest extends Edges {
+  public static void main(String[] args) {
     nothing();
     pipes();
     counters();
@@ -31,12 +18,16 @@ public final class BoundaryHandlesTest {
     readingCountersAndTimers();
     arming();
     ticking();
-    edges.end(1, 14);
+    end(1, 14);
   }
 
   private static void nothing() {
     edge(1, "No HANDLES are there.", each(0, 15, "handle(@, 0) = -1; close(@) = 0; other(@) = -1")
         + "about(0) = 0; about(6) = 0; about(1) = 0; set() = 0; about(0) = 1");
+    edge(1, "A HANDLE (0 .. 15; a new one is the lowest that is not there)", each(0, 15, "counter(@, true) = @") + """
+        about(0) = 65535; timer() = -1; close(12) = 1; close(3) = 1; close(15) = 1; timer() = 3; set() = 12; twin(0) = 15
+        timer() = -1; handle(3, 0) = 3; handle(12, 0) = 4; handle(15, 0) = 2; handle(14, 1) = 14
+        """);
     edge(1, "There are six TASKS (0 .. 5), none asleep at first.", each(0, 5, """
         task(@, 0) = 0; task(@, 1) = -1; task(@, 2) = 0; task(@, 3) = 0; task(@, 4) = 0; task(@, 5) = 0
         task(@, 6) = 0; task(@, 7) = -1; task(@, 8) = 0; task(@, 9) = 0; got(@, 0, 0) = -1
@@ -149,6 +140,11 @@ public final class BoundaryHandlesTest {
         listener(3, 5) = 0; set() = 1; add(1, 0, 1, 1) = 1; await(0, 1, 1, 0) = -2; connect(0) = 2; task(0, 4) = 1
         got(0, 0, 0) = 0; got(0, 0, 1) = 1; listed(1) = 0; connect(0) = 3; listed(1) = 1; interest(1, 0, 7) = 2
         """);
+    edge(7, "a NOTICE of IN goes out at the LISTENER", """
+        listener(3, 5) = 0; set() = 1; add(1, 0, 2, 0) = 1; connect(0) = 2; listed(1) = 0; interest(1, 0, 7) = 0
+        change(1, 0, 0, 0) = 1; connect(0) = 3; listed(1) = 0; change(1, 0, 1, 0) = 1; listed(1) = 1
+        connect(0) = 4; interest(1, 0, 7) = 1
+        """);
     edge(7, "NONE, doing nothing, if a HANDLE is not there", """
         listener(3, 5) = 0; set() = 1; close(1) = 1; connect(1) = -1 !; connect(15) = -1 !; connect(16) = -1 !
         connect(-1) = -1 !; connect(MAX) = -1 !; connect(MIN) = -1 !
@@ -171,6 +167,8 @@ public final class BoundaryHandlesTest {
         connect(0) = -2 !; connect(1) = -2 !; handle(0, 1) = 7; handle(1, 1) = 5; about(6) = 26; accept(1) = 14
         connect(0) = 15; about(6) = 28; close(14) = 1; connect(0) = -2; connect(1) = -2; close(0) = 1; connect(1) = 0
         """);
+    edge(7, "at all LISTENERS together at most 12", "set() = 0; listener(12, 5) = 1; listener(12, 5) = 2; close(0) = 1\n"
+        + "connect(1) = 0\n" + each(3, 13, "connect(2) = @") + "connect(1) = -2 !; connect(2) = -2 !; accept(1) = 14; connect(2) = 15");
     edge(7, "they are not GONE as long as they wait", """
         listener(1, 5) = 0; connect(0) = 1; about(6) = 3; handle(1, 2) = 2; write(1, 9) = 5; write(1, 1) = 0
         handle(1, 2) = 0; close(1) = 1; about(6) = 2; accept(0) = 1; about(6) = 2; handle(1, 2) = 5; read(1, 9) = 5
@@ -183,6 +181,10 @@ public final class BoundaryHandlesTest {
         listener(3, 5) = 0; listener(3, 5) = 1; connect(0) = 2; connect(1) = 3; connect(0) = 4; connect(1) = 5
         accept(1) = 6; other(6) = 3; handle(1, 1) = 1; handle(0, 1) = 2; accept(0) = 7; other(7) = 2; accept(0) = 8
         other(8) = 4; accept(1) = 9; other(9) = 5; handle(0, 1) = 0; handle(1, 1) = 0
+        """);
+    edge(8, "Who waited longest at a LISTENER", """
+        set() = 0; listener(3, 5) = 1; connect(1) = 2; close(0) = 1; connect(1) = 0; accept(1) = 3; other(3) = 2
+        accept(1) = 4; other(4) = 0   # not the lowest HANDLE
         """);
     edge(8, "a HANDLE that names it", """
         listener(3, 5) = 0; connect(0) = 1; set() = 2; set() = 3; close(2) = 1; accept(0) = 2; handle(2, 0) = 0
@@ -239,6 +241,11 @@ public final class BoundaryHandlesTest {
         write(2, 1) = 1; about(3) = 2; shown(0, 0) = 1  # the closed end is listed while task 1 sleeps
         close(1) = 1; task(1, 4) = 1; task(1, 2) = 1; got(1, 0, 0) = 2; got(1, 0, 1) = 8
         """);
+    edge(10, "An INTEREST whose OBJECT is GONE, or whose SET is, is there no more.", """
+        set() = 0; set() = 1; counter(1, false) = 2; add(0, 1, 1, 0) = 1; add(1, 2, 1, 0) = 1; add(0, 2, 1, 0) = 2
+        twin(1) = 3; close(1) = 1; about(1) = 3; shows(0) = 2; interest(0, 0, 6) = 0; close(3) = 1; about(1) = 1
+        shows(0) = 1; shown(0, 0) = 2; handle(2, 4) = 1; close(0) = 1; about(1) = 0; handle(2, 4) = 0
+        """);
     edge(10, "then, of a SET, those that it holds", """
         set() = 0; counter(1, false) = 1; pipe(5) = 2; add(0, 1, 1, 0) = 1; add(0, 2, 1, 0) = 2; set() = 4
         add(4, 1, 1, 0) = 1; handle(1, 4) = 2; close(0) = 1; about(1) = 1; handle(1, 4) = 1; handle(2, 4) = 0
@@ -258,6 +265,10 @@ public final class BoundaryHandlesTest {
         + each(1, 12, "connect(0) = @") + "about(6) = 25; close(0) = 1; about(6) = 12\n"
         + each(1, 12, "handle(@, 2) = 8; write(@, 1) = -2"));
     edge(10, "of a LISTENER, the READING ENDS that wait there are GONE", """
+        pipe(5) = 0; listener(3, 3) = 2; close(2) = 1; other(0) = 1; other(1) = 0; handle(0, 2) = 0; handle(1, 2) = 2
+        listener(3, 3) = 2; connect(2) = 3; close(2) = 1; other(0) = 1; handle(0, 2) = 0; handle(3, 2) = 8; write(1, 1) = 1
+        """);
+    edge(10, "of a LISTENER, the READING ENDS that wait there are GONE", """
         listener(3, 3) = 0; listener(3, 3) = 1; connect(0) = 2; connect(1) = 3; close(1) = 1; handle(2, 2) = 2
         handle(3, 2) = 8; accept(0) = 1; other(1) = 2; close(0) = 1; handle(2, 2) = 2
         """);
@@ -265,6 +276,10 @@ public final class BoundaryHandlesTest {
         listener(3, 5) = 0; connect(0) = 1; connect(0) = 2; connect(0) = 3; set() = 4; accept(0) = 5; connect(0) = 6
         add(4, 6, 0, 0) = 1; add(4, 3, 0, 0) = 2; add(4, 2, 0, 0) = 3; add(4, 1, 0, 0) = 4; listed(4) = 0; close(0) = 1
         listed(4) = 3; shown(4, 0) = 2; shown(4, 1) = 3; shown(4, 2) = 6; interest(4, 0, 7) = 1; interest(4, 2, 7) = 1
+        """);
+    edge(10, "who waited longest first", """
+        set() = 0; listener(3, 5) = 1; connect(1) = 2; close(0) = 1; connect(1) = 0; set() = 3; add(3, 0, 0, 0) = 1
+        add(3, 2, 0, 0) = 2; close(1) = 1; shown(3, 0) = 2; shown(3, 1) = 0
         """);
     // The second end still waits when the first one's NOTICE goes out: task 1 gets OUT of it then.
     edge(10, "who waited longest first, each with a NOTICE of BROKEN at its WRITING END", """
@@ -322,6 +337,10 @@ public final class BoundaryHandlesTest {
         write(3, 1) = -1 !; write(4, 1) = -1 !; write(5, 1) = -1 !; write(15, 1) = -1 !; write(16, 1) = -1 !
         write(-1, 1) = -1 !; write(MAX, 1) = -1 !; write(MIN, 1) = -1 !
         """);
+    edge(11, "NONE, doing nothing, for others", "set() = 0; pipe(5) = 1; counter(5, true) = 3\n" + each(4, 9, "twin(2) = @")
+        + each(10, 15, "twin(3) = @") + "close(4) = 1; close(10) = 1; write(4, 1) = -1 !; write(10, 1) = -1 !; read(10, 1) = -1 !");
+    edge(11, "NONE, doing nothing, for others", "set() = 0; set() = 1; counter(5, true) = 2\n" + each(3, 15, "twin(2) = @")
+        + "close(4) = 1; write(4, 1) = -1 !; read(4, 1) = -1 !; arm(4, 1, 1) = 0 !; connect(4) = -1 !; accept(4) = -1 !");
     edge(11, "another n.", """
         pipe(1) = 0; write(1, 1) = 1; write(1, 0) = -1; write(1, 101) = -1; close(0) = 1; write(1, 0) = -1 !
         write(1, 101) = -1 !; counter(1000, true) = 0; write(0, 101) = -1 !; write(0, 0) = -1 !
@@ -354,6 +373,10 @@ public final class BoundaryHandlesTest {
         set() = 0; counter(899, false) = 1; add(0, 1, 1, 1) = 1; collect(0, 0, 1) = 1; write(1, 100) = 100; listed(0) = 1
         handle(1, 1) = 999; write(1, 1) = 1; handle(1, 1) = 1000; interest(0, 0, 7) = 2; change(0, 1, 2, 0) = 1
         read(1, 1) = 1000; write(1, 1) = 1; interest(0, 0, 7) = 3  # OUT by reading; IN is not wanted then
+        """);
+    edge(11, "a COUNTER 0 .. 1,000", """
+        counter(1000, true) = 0; write(0, 1) = 0 !; read(0, 1) = 1; write(0, 2) = 0 !; write(0, 1) = 1; handle(0, 1) = 1000
+        counter(0, false) = 1; read(1, 1) = 0 !; handle(1, 1) = 0
         """);
     edge(11, "0, doing nothing, if that were above 1,000.", """
         set() = 0; counter(950, true) = 1; add(0, 1, 1, 1) = 1; collect(0, 0, 1) = 1; set() = 2; undo() = 1
@@ -473,6 +496,10 @@ public final class BoundaryHandlesTest {
         set() = 0; timer() = 1; timer() = 2; timer() = 3; add(0, 1, 1, 1) = 1; add(0, 2, 1, 1) = 2; add(0, 3, 1, 1) = 3
         twin(1) = 4; close(1) = 1; twin(3) = 1; arm(4, 1, 0) = 1; arm(2, 1, 0) = 1; arm(3, 1, 0) = 1; tick(1) = 1
         shown(0, 0) = 3; shown(0, 1) = 2; shown(0, 2) = 1; handle(1, 1) = 1; handle(4, 1) = 1  # by 1, 2, 4
+        """);
+    edge(14, "(a NOTICE of IN goes out at each one at once)", """
+        set() = 0; timer() = 1; add(0, 1, 2, 0) = 1; arm(1, 1, 1) = 1; tick(2) = 2; listed(0) = 0; interest(0, 0, 7) = 0
+        change(0, 1, 0, 0) = 1; tick(2) = 4; listed(0) = 0; change(0, 1, 3, 0) = 1; tick(3) = 7; interest(0, 0, 7) = 3
         """);
     // At the first NOTICE the second timer has not fired, though it is on the LIST: task 1 gets the first one alone.
     edge(14, "(a NOTICE of IN goes out at each one at once)", """

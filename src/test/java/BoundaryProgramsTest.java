@@ -1,19 +1,6 @@
-import java.io.IOException;
-
 /** Boundary cases of the promises 31 to 44: programs, what would come, boxes, acts taken back and done again. */
-public final class BoundaryProgramsTest {
-  private static Edges edges;
-
-  private static void edge(int promise, String words, String script) {
-    edges.edge(promise, words, script);
-  }
-
-  private static String each(int from, int to, String text) {
-    return Edges.each(from, to, text);
-  }
-
-  public static void main(String[] args) throws IOException {
-    edges = new Edges();
+public final class BoundaryProgramsTest extends Edges {
+  public static void main(String[] args) {
     planning();
     goingRound();
     rounds();
@@ -31,7 +18,7 @@ public final class BoundaryProgramsTest {
     acts();
     redoing();
     about();
-    edges.end(31, 44);
+    end(31, 44);
   }
 
   private static void planning() {
@@ -47,6 +34,11 @@ public final class BoundaryProgramsTest {
     edge(31, "NONE, doing nothing, .. or 4 are left", """
         plan(0, 0, 0, 1) = 1; plan(0, 1, 0, 1) = 2; plan(0, 2, 0, 1) = 3; plan(0, 3, 0, 1) = 4; set() = 0; undo() = 1
         plan(0, 4, 0, 0) = -1 !; plan(1, 4, 0, 0) = 1; step(0) = -1; plan(0, 4, 0, 0) = 4; plan(0, 4, 0, 0) = -1 !
+        """);
+    edge(31, "A TASK has a PROGRAM of at most 4 STEPS, done one by one", """
+        counter(0, false) = 0; plan(5, 0, 0, 4) = 1; plan(5, 0, 0, 3) = 2; plan(5, 0, 0, 2) = 3; plan(5, 0, 0, 1) = 4
+        plan(5, 0, 0, 9) = -1; step(5) = 4; step(5) = 3; plan(5, 0, 0, 9) = 3; step(5) = 2; step(5) = 1; step(5) = 9
+        step(5) = -4; handle(0, 1) = 19
         """);
     edge(31, "an operation 0 .. 7", each(0, 5, "plan(@, 4, 9, 0) = 1; plan(@, 0, 9, 0) = 2; plan(@, 7, 9, 0) = 3") + """
         set() = 0; await(0, 0, 1, 0) = -2; plan(0, 1, 0, 0) = 4   # one that sleeps can have a PROGRAM
@@ -162,6 +154,10 @@ public final class BoundaryProgramsTest {
         counter(0, true) = 15; add(14, 15, 1, 0) = 1; add(13, 14, 1, 0) = 1; add(12, 13, 1, 0) = 1
         calls(15, 1) = 28672; calls(14, 1) = 12288; calls(12, 1) = 0; close(0) = 1; twin(13) = 0; calls(15, 1) = 20481
         close(13) = 1; calls(15, 1) = 20481; calls(15, 4) = 20481; calls(14, 2) = 0; calls(14, 8) = 4097
+        """);
+    edge(36, "as bits of the lowest HANDLES that name them", each(0, 13, "counter(0, true) = @") + """
+        set() = 14; set() = 15; add(15, 0, 1, 0) = 1; calls(0, 1) = 32768; add(14, 15, 1, 0) = 1; calls(0, 1) = 49152
+        close(13) = 1; twin(15) = 13; calls(0, 1) = 24576
         """);
     edge(36, "SETS that would be CALLED", """
         counter(1, true) = 0; set() = 1; set() = 2; set() = 3; add(1, 0, 1, 7) = 1; add(2, 0, 1, 5) = 1
@@ -316,6 +312,17 @@ public final class BoundaryProgramsTest {
         plan(1, 1, 1, 1) = 1; plan(1, 2, 0, 8) = 2; orders(0, 1, 0) = 3; orders(0, 1, 3) = 1; orders(0, 1, 4) = 2
         orders(1, 0, 3) = 1; orders(1, 0, 4) = 2; task(0, 3) = 1
         """);
+    edge(41, "3: the fewest that both got in all on the way", """
+        set() = 0; counter(1, false) = 1; add(0, 1, 1, 0) = 1; collect(1, 0, 1) = 1; collect(1, 0, 1) = 1
+        collect(2, 0, 1) = 1; collect(2, 0, 1) = 1; collect(2, 0, 1) = 1; plan(1, 2, 0, 1) = 1; plan(2, 2, 0, 1) = 1
+        orders(1, 2, 3) = 2; orders(1, 2, 4) = 2; orders(2, 1, 3) = 2; orders(2, 3, 3) = 1; orders(3, 1, 4) = 1
+        """);
+    edge(41, "1: in how many one of both is asleep at the end, 2: asleep while its SET SHOWS some", """
+        set() = 0; counter(0, false) = 1; add(0, 1, 1, 0) = 1; await(4, 0, 1, 0) = -2; await(5, 0, 1, 0) = -2
+        write(1, 1) = 1; about(3) = 32; plan(3, 4, 9, 0) = 1; orders(3, 5, 1) = 1; orders(5, 3, 1) = 1; orders(3, 5, 2) = 1
+        orders(5, 3, 2) = 1; orders(3, 4, 1) = 0; orders(4, 3, 2) = 0; read(1, 1) = 1; orders(5, 3, 1) = 1
+        orders(3, 5, 2) = 0; orders(5, 3, 2) = 0
+        """);
     edge(41, "(Nothing is done.)", """
         set() = 0; counter(0, false) = 1; add(0, 1, 1, 2) = 1; plan(0, 3, 0, 1) = 1; plan(0, 4, 0, 0) = 2
         plan(1, 0, 1, 1) = 1; plan(1, 5, 0, 1) = 2; image(0) = 2; tick(1) = 1; undo() = 1; orders(0, 1, 0) = 5 !
@@ -362,6 +369,14 @@ public final class BoundaryProgramsTest {
         change(0, 1, 1, 0) = 1; about(4) = 5; drop(0, 1) = 1; about(4) = 6; collect(0, 0, 1) = 0; about(4) = 7
         await(0, 0, 1, 0) = -2; about(4) = 8; plan(0, 0, 0, 0) = 1; about(4) = 9; round(0, true) = 1; about(4) = 10
         rounds(1) = 0; about(4) = 11; forget(0) = 1; about(4) = 12; undo() = 1; about(4) = 11; task(0, 8) = 1
+        """);
+    edge(42, "ACTS are the calls that do something", """
+        counter(1, true) = 0; about(4) = 1; close(0) = 1; timer() = 0; about(4) = 3; close(0) = 1; set() = 0; about(4) = 5
+        close(0) = 1; listener(2, 2) = 0; about(4) = 7; twin(0) = 1; close(0) = 1; twin(1) = 0; about(4) = 10
+        """);
+    edge(42, "ACTS are the calls that do something", """
+        set() = 0; listener(2, 2) = 1; close(0) = 1; connect(1) = 0; about(4) = 4; undo() = 1; about(0) = 2; redo() = 1
+        twin(0) = 2; close(0) = 1; accept(1) = 0; about(4) = 7; undo() = 1; handle(1, 1) = 1   # 0 is a HANDLE like others
         """);
     edge(42, "not those that answer NONE or false, nor those of which it is told that they do nothing, nor UNDO, REDO", """
         pipe(1) = 0; write(1, 1) = 1; set() = 2; add(2, 0, 1, 0) = 1; set() = 3; undo() = 1; write(1, 1) = 0 !

@@ -1,19 +1,6 @@
-import java.io.IOException;
-
 /** Boundary cases of the promises 15 to 30: interests, lists, sleepers, and what is told of them. */
-public final class BoundarySetsTest {
-  private static Edges edges;
-
-  private static void edge(int promise, String words, String script) {
-    edges.edge(promise, words, script);
-  }
-
-  private static String each(int from, int to, String text) {
-    return Edges.each(from, to, text);
-  }
-
-  public static void main(String[] args) throws IOException {
-    edges = new Edges();
+public final class BoundarySetsTest extends Edges {
+  public static void main(String[] args) {
     adding();
     addingWhatCantBe();
     addingTwice();
@@ -34,7 +21,7 @@ public final class BoundarySetsTest {
     askingTasks();
     askingWhatWasGot();
     askingWhoWakes();
-    edges.end(15, 30);
+    end(15, 30);
   }
 
   private static void adding() {
@@ -61,6 +48,10 @@ public final class BoundarySetsTest {
         await(1, 1, 1, 0) = -2; add(0, 2, 1, 0) = 1; about(3) = 3; task(0, 5) = 0; listed(0) = 0; task(1, 5) = 0
         add(0, 3, 1, 0) = 2; about(3) = 0; got(0, 0, 0) = 3; got(1, 0, 0) = 0; listed(0) = 1; interest(0, 1, 7) = 0
         interest(1, 0, 7) = 1
+        """);
+    edge(15, "and the SET is CALLED", """
+        set() = 0; set() = 1; set() = 2; counter(1, true) = 3; add(0, 2, 0, 0) = 1; add(1, 2, 2, 0) = 1
+        add(2, 3, 1, 0) = 1; interest(0, 0, 7) = 0; interest(1, 0, 7) = 0; listed(0) = 0; listed(1) = 0   # IN, no more
         """);
     edge(15, "in the order in which they were added", """
         set() = 0; counter(0, true) = 1; counter(0, true) = 2; counter(0, true) = 3; add(0, 3, 1, 0) = 1
@@ -100,6 +91,15 @@ public final class BoundarySetsTest {
         set() = 0; counter(1, true) = 1; twin(0) = 2; add(0, 1, 1, 0) = 1; set() = 3; undo() = 1; add(0, 1, 1, 0) = -2 !
         add(0, 1, 0, 7) = -2 !; add(2, 1, 1, 0) = -2 !; interest(0, 0, 2) = 0; set() = 3; add(3, 1, 1, 0) = 1
         """);
+    edge(15, "by that HANDLE's number in that OBJECT", """
+        set() = 0; counter(1, true) = 1; twin(1) = 2; twin(1) = 3; add(0, 2, 1, 0) = 1; change(0, 1, 1, 0) = 0 !
+        change(0, 3, 1, 0) = 0 !; drop(0, 1) = 0 !; drop(0, 3) = 0 !; add(0, 1, 1, 0) = 2; add(0, 3, 1, 0) = 3
+        drop(0, 2) = 1; interest(0, 0, 0) = 1; interest(0, 1, 0) = 3
+        """);
+    edge(15, "else -2, if it holds one by that HANDLE's number in that OBJECT", """
+        set() = 0; set() = 1; counter(1, true) = 2; add(1, 2, 1, 0) = 1; change(0, 2, 1, 0) = 0 !; drop(0, 2) = 0 !
+        add(0, 2, 1, 0) = 1; add(1, 2, 1, 0) = -2 !; add(0, 2, 1, 0) = -2 !; about(1) = 2
+        """);
     edge(15, "else -2, if it holds one by that HANDLE's number in that OBJECT", """
         set() = 0; counter(1, true) = 1; twin(1) = 2; add(0, 1, 1, 0) = 1; add(0, 2, 1, 0) = 2  # another number
         close(1) = 1; counter(1, true) = 1; add(0, 1, 1, 0) = 3                                 # another OBJECT
@@ -121,6 +121,11 @@ public final class BoundarySetsTest {
     edge(15, "or more than three deep", """
         set() = 0; set() = 1; set() = 2; set() = 3; add(0, 1, 1, 0) = 1; add(2, 3, 1, 0) = 1; add(1, 2, 1, 0) = -3 !
         add(3, 0, 1, 0) = -3 !; add(0, 2, 1, 0) = 2; depth(0) = 3; drop(2, 3) = 1; add(1, 2, 1, 0) = 1; depth(0) = 3
+        """);
+    edge(15, "or more than three deep", """
+        set() = 0; set() = 1; set() = 2; listener(1, 1) = 3; pipe(1) = 4; counter(1, true) = 6; timer() = 7
+        add(0, 1, 1, 0) = 1; add(1, 2, 1, 0) = 1; add(2, 3, 1, 0) = 1; add(2, 4, 1, 0) = 2; add(2, 5, 1, 0) = 3
+        add(2, 6, 1, 0) = 4; add(2, 7, 1, 0) = 5; depth(0) = 3; depth(1) = 2; depth(2) = 1   # SETS alone count
         """);
     edge(15, "SETS may stand in one another three deep (a SET with none in it is one deep), none in itself.", """
         set() = 0; set() = 1; set() = 2; counter(1, true) = 3; timer() = 4; add(2, 3, 1, 0) = 1; add(2, 4, 1, 0) = 2
@@ -186,6 +191,11 @@ public final class BoundarySetsTest {
         interest(0, 0, 1) = 1; interest(0, 1, 1) = 2; close(1) = 1; twin(2) = 1; change(0, 1, 3, 4) = 1
         interest(0, 0, 1) = 3; interest(0, 0, 2) = 4
         """);
+    edge(16, "in the OBJECT it names now", """
+        set() = 0; timer() = 1; counter(1, true) = 2; add(0, 2, 1, 0) = 1; twin(2) = 3; close(2) = 1; close(1) = 1
+        twin(0) = 1; counter(0, true) = 2; change(0, 2, 1, 0) = 0 !; drop(0, 2) = 0 !; add(0, 2, 1, 0) = 2
+        interest(0, 0, 6) = 0; interest(0, 1, 6) = 1; change(0, 2, 2, 1) = 1; interest(0, 0, 1) = 1; interest(0, 1, 1) = 2
+        """);
     edge(16, "false, doing nothing, .. or a MASK, bits can't be", """
         set() = 0; counter(1, true) = 1; add(0, 1, 1, 2) = 1; collect(0, 0, 1) = 1; set() = 2; undo() = 1
         change(0, 1, -1, 0) = 0 !; change(0, 1, 4, 0) = 0 !; change(0, 1, MAX, 0) = 0 !; change(0, 1, MIN, 0) = 0 !
@@ -205,6 +215,12 @@ public final class BoundarySetsTest {
         drop(1, 2) = 1; shows(0) = 0; listed(0) = 1; depth(0) = 2; drop(0, 1) = 1; depth(0) = 1
         add(1, 2, 1, 0) = 1; interest(1, 0, 7) = 0; interest(1, 0, 8) = 0; interest(1, 0, 2) = 0
         """);
+    edge(17, "Such an INTEREST is there no more", """
+        set() = 0; counter(1, false) = 1; counter(1, false) = 2; add(0, 1, 1, 0) = 1; add(0, 2, 1, 0) = 2; write(2, 1) = 1
+        collect(0, 0, 1) = 1; collect(0, 0, 1) = 1; collect(0, 0, 1) = 1; interest(0, 1, 7) = 1; interest(0, 1, 8) = 1
+        interest(0, 1, 9) = 1; read(2, 1) = 2; drop(0, 2) = 1; add(0, 2, 1, 0) = 2   # a new one, of which nothing is told
+        interest(0, 1, 7) = 0; interest(0, 1, 8) = 0; interest(0, 1, 9) = 0; interest(0, 1, 3) = 1; interest(0, 1, 4) = -1
+        """);
     edge(17, "false if there is none such.", """
         set() = 0; counter(1, true) = 1; set() = 2; add(0, 1, 1, 0) = 1; twin(1) = 3; set() = 4; undo() = 1
         drop(0, 2) = 0 !; drop(0, 3) = 0 !; drop(2, 1) = 0 !; drop(1, 1) = 0 !; drop(0, 0) = 0 !; drop(0, 4) = 0 !
@@ -222,9 +238,18 @@ public final class BoundarySetsTest {
         write(2, 1) = 1; shown(0, 0) = 2; interest(0, 1, 7) = 2; collect(0, 0, 8) = 3; write(1, 1) = 1
         interest(0, 3, 7) = 1; interest(0, 3, 4) = -1; interest(0, 0, 7) = 2; read(1, 1) = 1; interest(0, 2, 7) = 1
         """);
+    edge(30, "is LISTED (at the end, if it is not on the LIST)", """
+        set() = 0; counter(0, true) = 1; counter(0, true) = 2; add(0, 1, 1, 0) = 1; add(0, 2, 1, 0) = 2; write(1, 1) = 1
+        write(2, 1) = 1; write(1, 1) = 1; shown(0, 0) = 1; shown(0, 1) = 2; listed(0) = 2   # 1 stays where it is
+        """);
     edge(30, "one by one in the order in which they were added (to whichever SETS)", """
         counter(0, true) = 0; set() = 1; set() = 2; add(2, 0, 1, 4) = 1; add(1, 0, 1, 4) = 1; await(0, 1, 1, 0) = -2
         await(1, 2, 1, 0) = -2; wakes(0) = 2; write(0, 1) = 1; about(3) = 1; listed(2) = 1; listed(1) = 0
+        """);
+    edge(30, "A SET that is CALLED: its first sleeper, if it has any, is WOKEN", """
+        set() = 0; counter(0, true) = 1; add(0, 1, 1, 1) = 1; write(1, 1) = 1; listed(0) = 1; collect(0, 0, 1) = 1
+        await(5, 0, 1, 0) = -2; await(0, 0, 1, 0) = -2; await(3, 0, 1, 0) = -2; write(1, 1) = 1; about(3) = 9
+        write(1, 1) = 1; about(3) = 8; write(1, 1) = 1; about(3) = 0; write(1, 1) = 1; listed(0) = 1
         """);
     edge(30, "then a NOTICE of IN (one of its own) goes out at the SET itself", """
         set() = 0; set() = 1; set() = 2; counter(0, true) = 3; add(0, 1, 1, 1) = 1; add(1, 2, 1, 1) = 1
@@ -354,7 +379,17 @@ public final class BoundarySetsTest {
         await(0, 0, 1, 0) = -2; await(1, 0, 1, 0) = -2; await(2, 0, 1, 0) = -2; write(2, 1) = 1; about(3) = 6
         write(3, 1) = 1; about(3) = 0; got(1, 0, 0) = 2; got(2, 0, 0) = 3; listed(0) = 1   # first 2, then 3
         """);
-    // LIST: 2, 3, of which 3 is not TRUE any more when task 2 got 2: the next one is not woken for it.
+    edge(28, "the next sleeper is WOKEN, and so on", """
+        set() = 0; counter(0, false) = 1; counter(0, false) = 2; add(0, 1, 1, 1) = 1; add(0, 2, 1, 0) = 2
+        await(0, 0, 1, 0) = -2; await(1, 0, 1, 0) = -2; await(2, 0, 1, 0) = -2; write(2, 1) = 1; about(3) = 6
+        write(1, 1) = 1; about(3) = 0; got(1, 0, 0) = 2; got(2, 0, 0) = 1; task(2, 4) = 1
+        """);
+    edge(28, "if the LIST holds some that are TRUE", """
+        set() = 0; set() = 1; set() = 2; counter(1, true) = 3; counter(0, true) = 4; add(0, 3, 1, 0) = 1
+        add(2, 3, 1, 0) = 1; add(1, 4, 1, 0) = 1; await(0, 1, 1, 0) = -2; await(1, 1, 1, 0) = -2; write(4, 1) = 1
+        about(3) = 2; task(1, 5) = 0; listed(0) = 1; listed(2) = 1   # other SETS' LISTS do not count
+        """);
+    // LIST: 1, 2, of which 2 is not TRUE any more when task 2 got 1: the next one is not woken for it.
     edge(28, "if the LIST holds some that are TRUE", """
         set() = 0; counter(0, false) = 1; counter(0, false) = 2; add(0, 1, 1, 0) = 1; add(0, 2, 1, 0) = 2
         await(0, 0, 1, 0) = -2; await(1, 0, 2, 0) = -2; await(2, 0, 1, 0) = -2; await(3, 0, 1, 0) = -2
@@ -380,6 +415,8 @@ public final class BoundarySetsTest {
         handle(-1, 0) = -1 !; handle(MAX, 0) = -1 !; handle(MIN, 5) = -1 !; handle(0, 6) = -1 !; handle(0, -1) = -1 !
         handle(0, MAX) = -1 !; handle(0, MIN) = -1 !; handle(0, 0) = 4 !; handle(0, 5) = 0 !; handle(1, 6) = -1
         """);
+    edge(20, "NONE if there is none such", "pipe(5) = 0; set() = 2; listener(1, 1) = 3; connect(3) = 4; close(1) = 1\n"
+        + each(0, 5, "handle(1, @) = -1; handle(5, @) = -1; handle(15, @) = -1; handle(16, @) = -1; handle(-1, @) = -1"));
     edge(20, "1: what it holds (bytes of the PIPE, also when the other end is GONE", """
         pipe(5) = 0; write(1, 3) = 3; handle(0, 1) = 3; handle(1, 1) = 3; twin(0) = 2; close(1) = 1; handle(0, 1) = 3
         read(2, 1) = 1; handle(0, 1) = 2; pipe(5) = 1; write(3, 4) = 4; close(1) = 1; handle(3, 1) = 4; handle(3, 5) = 5
@@ -403,6 +440,11 @@ public final class BoundarySetsTest {
         handle(0, 2) = 1; handle(1, 2) = 1; read(0, 1) = 1; handle(0, 2) = 0; listed(1) = 1; handle(1, 2) = 0
         arm(0, 1, 0) = 1; tick(1) = 2; change(1, 0, 1, 2) = 1; collect(0, 1, 1) = 1; handle(1, 2) = 0
         """);
+    edge(20, "SET: IN if it SHOWS some", """
+        set() = 0; set() = 1; set() = 2; set() = 3; pipe(5) = 4; pipe(5) = 6; add(0, 4, 0, 0) = 1; add(1, 7, 0, 0) = 1
+        add(2, 0, 1, 0) = 1; add(3, 1, 1, 0) = 1; close(5) = 1; handle(0, 2) = 1; handle(2, 2) = 1; handle(1, 2) = 0
+        handle(3, 2) = 0; close(6) = 1; handle(1, 2) = 1; handle(3, 2) = 1; shows(3) = 1   # by ENDED, by BROKEN
+        """);
     edge(20, "3: how many HANDLES name it, 4: how many INTERESTS are in it", """
         set() = 0; counter(1, true) = 1; handle(1, 3) = 1; handle(1, 4) = 0; twin(1) = 2; twin(2) = 3; handle(2, 3) = 3
         add(0, 1, 1, 0) = 1; add(0, 3, 1, 0) = 2; set() = 4; add(4, 0, 1, 0) = 1; add(4, 2, 1, 0) = 2; handle(2, 4) = 3
@@ -416,6 +458,10 @@ public final class BoundarySetsTest {
     edge(20, "of a SET how many sleep at it; a LISTENER's backlog", """
         set() = 0; listener(12, 1) = 1; handle(0, 5) = 0; handle(1, 5) = 12
         """ + each(0, 5, "await(@, 0, 1, 0) = -2") + "handle(0, 5) = 6; connect(1) = 2; handle(1, 5) = 12");
+    edge(20, "of a SET how many sleep at it", """
+        set() = 0; set() = 1; set() = 2; await(0, 1, 1, 0) = -2; handle(0, 5) = 0; handle(1, 5) = 1; handle(2, 5) = 0
+        await(5, 0, 1, 0) = -2; await(3, 1, 1, 0) = -2; handle(0, 5) = 1; handle(1, 5) = 2; sleeper(2, 0) = -1
+        """);
     edge(21, "The lowest HANDLE that names the other end of a PIPE", """
         pipe(5) = 0; twin(0) = 2; twin(1) = 3; other(0) = 1; other(2) = 1; other(1) = 0; other(3) = 0; close(0) = 1
         other(3) = 2; twin(3) = 0; other(2) = 0; close(2) = 1; other(0) = -1; listener(1, 5) = 2; connect(2) = 4
@@ -435,6 +481,8 @@ public final class BoundarySetsTest {
         interest(0, 0, -1) = -1 !; interest(0, 0, MAX) = -1 !; interest(1, 0, 0) = -1 !; interest(2, 0, 0) = -1 !
         interest(16, 0, 0) = -1 !; interest(-1, 0, 0) = -1 !; interest(0, 0, 9) = 0 !; interest(0, 0, 0) = 1 !
         """);
+    edge(22, "NONE if there is none such", "set() = 0; set() = 1; counter(1, true) = 2; add(0, 2, 1, 0) = 1\n"
+        + each(0, 9, "interest(0, 1, @) = -1; interest(1, 0, @) = -1; interest(2, 0, @) = -1; interest(3, 0, @) = -1"));
     edge(22, "Of the k-th (0 ..) INTEREST that a SET holds", """
         set() = 0; set() = 1; counter(1, true) = 2; counter(1, true) = 3; add(1, 2, 1, 0) = 1; add(0, 3, 2, 1) = 1
         add(1, 3, 3, 0) = 2; add(0, 2, 0, 4) = 2; interest(0, 0, 0) = 3; interest(0, 1, 0) = 2; interest(0, 1, 2) = 4
@@ -445,6 +493,21 @@ public final class BoundarySetsTest {
         interest(0, 0, 4) = -1; interest(0, 0, 5) = 0; interest(0, 1, 4) = 0; interest(0, 1, 5) = 1; write(1, 1) = 1
         interest(0, 0, 4) = 1; interest(0, 0, 5) = 1; read(1, 1) = 1; interest(0, 0, 4) = 1; interest(0, 0, 5) = 0
         change(0, 2, 1, 3) = 1; collect(0, 0, 1) = 1; interest(0, 1, 3) = 0; interest(0, 1, 5) = 0; handle(2, 2) = 3
+        """);
+    edge(22, "4: its place on the LIST", """
+        set() = 0; set() = 1; set() = 2; counter(1, true) = 3; counter(1, true) = 4; add(1, 3, 1, 0) = 1
+        add(0, 3, 1, 0) = 1; add(2, 4, 1, 0) = 1; add(0, 4, 1, 0) = 2; add(2, 3, 1, 0) = 2; interest(1, 0, 4) = 0
+        interest(0, 0, 4) = 0; interest(0, 1, 4) = 1; interest(2, 0, 4) = 0; interest(2, 1, 4) = 1; shown(2, 0) = 4
+        """);
+    edge(22, "It is TRUE if it is armed, and its OBJECT is READY by one of its bits.", """
+        set() = 0; counter(1, true) = 1; twin(1) = 2; twin(1) = 3; add(0, 1, 0, 0) = 1; add(0, 2, 2, 0) = 2
+        add(0, 3, 3, 2) = 3; interest(0, 0, 5) = 0; interest(0, 1, 5) = 1; interest(0, 2, 5) = 1; collect(0, 0, 8) = 2
+        interest(0, 2, 5) = 0; interest(0, 2, 3) = 0; interest(0, 1, 5) = 1; change(0, 3, 3, 2) = 1; interest(0, 2, 5) = 1
+        """);
+    edge(22, "6: 1 if that HANDLE names its OBJECT now, else 0", """
+        set() = 0; counter(0, true) = 1; counter(0, true) = 2; counter(0, true) = 3; add(0, 1, 1, 0) = 1
+        add(0, 2, 1, 0) = 2; add(0, 3, 1, 0) = 3; twin(2) = 4; interest(0, 1, 6) = 1; close(2) = 1; interest(0, 0, 6) = 1
+        interest(0, 1, 6) = 0; interest(0, 2, 6) = 1
         """);
     edge(22, "6: 1 if that HANDLE names its OBJECT now, else 0", """
         set() = 0; counter(0, true) = 1; add(0, 1, 1, 0) = 1; interest(0, 0, 6) = 1; twin(1) = 2; close(1) = 1
@@ -468,6 +531,11 @@ public final class BoundarySetsTest {
         add(1, 2, 1, 0) = 1; interest(0, 1, 9) = 0; collect(0, 1, 1) = 1; interest(0, 1, 9) = 0; collect(0, 0, 1) = 1
         interest(0, 0, 9) = 0; interest(0, 1, 9) = 1; write(3, 1) = 1; change(0, 3, 1, 0) = 1; interest(0, 1, 9) = 1
         collect(0, 0, 1) = 1; interest(0, 1, 9) = 0; interest(0, 0, 9) = 1; collect(0, 0, 8) = 2; interest(0, 0, 9) = 0
+        """);
+    edge(22, "a task COLLECTED at its SET", """
+        set() = 0; set() = 1; set() = 2; counter(1, true) = 3; counter(1, true) = 4; add(0, 3, 1, 0) = 1
+        add(0, 4, 1, 0) = 2; add(1, 3, 1, 0) = 1; add(1, 4, 1, 0) = 2; add(2, 3, 1, 0) = 1; add(2, 4, 1, 0) = 2
+        collect(0, 1, 1) = 1; interest(0, 1, 9) = 0; interest(1, 1, 9) = 1; interest(2, 1, 9) = 0
         """);
     edge(22, "(0: it is not on the LIST)", """
         set() = 0; counter(1, true) = 1; counter(1, true) = 2; add(0, 1, 1, 0) = 1; add(0, 2, 1, 1) = 2
@@ -500,6 +568,10 @@ public final class BoundarySetsTest {
         set() = 0; counter(1, false) = 1; counter(1, false) = 2; counter(1, false) = 3; add(0, 1, 1, 0) = 1
         add(0, 2, 1, 1) = 2; add(0, 3, 1, 0) = 3; shows(0) = 3; collect(0, 0, 8) = 3; shows(0) = 2  # 2: TRUE, not listed
         interest(0, 1, 5) = 1; read(1, 1) = 1; shows(0) = 1; listed(0) = 2; write(1, 1) = 1; shows(0) = 2
+        """);
+    edge(24, "How many a SET SHOWS", """
+        set() = 0; set() = 1; set() = 2; counter(1, true) = 3; add(1, 3, 1, 0) = 1; shows(0) = 0; shows(1) = 1; shows(2) = 0
+        handle(0, 2) = 0; handle(1, 2) = 1; handle(2, 2) = 0; shown(0, 0) = -1; shown(2, 0) = -1; listed(2) = 0
         """);
     edge(25, "NONE if there is none such.", """
         set() = 0; counter(1, true) = 1; shown(0, 0) = -1 !; add(0, 1, 1, 0) = 1; shown(0, 0) = 1 !; shown(0, 1) = -1 !
@@ -539,6 +611,7 @@ public final class BoundarySetsTest {
         task(6, 0) = -1 !; task(-1, 0) = -1 !; task(MAX, 0) = -1 !; task(MIN, 9) = -1 !; task(0, 10) = -1 !
         task(0, -1) = -1 !; task(0, MAX) = -1 !; task(0, MIN) = -1 !; task(5, 9) = 0 !; task(5, 10) = -1 !; task(0, 0) = 0 !
         """);
+    edge(28, "NONE if there is none such", each(0, 9, "task(6, @) = -1; task(-1, @) = -1; task(7, @) = -1"));
     edge(28, "0: 1 if it is asleep, else 0, 1: the lowest HANDLE that names the SET it is asleep at (NONE)", """
         set() = 0; twin(0) = 1; await(0, 1, 1, 0) = -2; task(0, 0) = 1; task(0, 1) = 0; close(0) = 1; task(0, 1) = 1
         twin(1) = 0; task(0, 1) = 0; close(0) = 1; close(1) = 1; task(0, 0) = 0; task(0, 1) = -1
@@ -564,6 +637,11 @@ public final class BoundarySetsTest {
         await(0, 0, 1, 0) = -2; task(0, 7) = -1; close(0) = 1; task(0, 6) = 2; task(0, 4) = 0; task(0, 5) = 0
         set() = 0; await(0, 0, 1, 9) = -2; counter(1, true) = 1; add(0, 1, 1, 0) = 1; task(0, 7) = -1; task(0, 6) = 2
         """);
+    edge(28, "6: how often it slept no more", """
+        set() = 0; await(0, 0, 1, 1) = -2; await(5, 0, 1, 1) = -2; tick(1) = 1; task(0, 6) = 1; task(0, 9) = 0
+        task(5, 9) = 0; round(0, false) = 0; round(0, true) = 1; task(0, 6) = 1; await(0, 0, 1, 1) = -2; tick(1) = 2
+        task(0, 6) = 2; task(0, 9) = 1; task(5, 6) = 1; task(1, 6) = 0; task(1, 9) = 0
+        """);
     edge(28, "8: STEPS of its PROGRAM that are left, 9: 1 if it GOES ROUND, else 0", """
         task(0, 8) = 0; plan(0, 4, 9, 0) = 1; plan(0, 4, 9, 0) = 2; task(0, 8) = 2; task(1, 8) = 0; step(0) = 0
         task(0, 8) = 1; task(0, 9) = 0; round(0, true) = 1; task(0, 9) = 1; task(1, 9) = 0; step(0) = 0; task(0, 8) = 1
@@ -584,6 +662,12 @@ public final class BoundarySetsTest {
         got(5, 0, 0) = 1; collect(5, 0, 1) = 1; got(5, 0, 0) = 2; got(5, 1, 0) = -1; read(2, 1) = 1; got(5, 0, 1) = 3
         close(2) = 1; got(5, 0, 0) = 2
         """);
+    // What six tasks got, eight each, is told of each one, and their PROGRAMS are as they were planned.
+    edge(29, "Of the i-th (0 ..) that a TASK got latest what 0: the HANDLE's number, 1: the bits", "set() = 0\n"
+        + each(1, 8, "counter(@, true) = @; add(0, @, 3, 0) = @") + "counter(0, true) = 9\n"
+        + each(0, 5, "plan(@, 0, 9, 4) = 1; plan(@, 0, 9, 3) = 2; plan(@, 0, 9, 2) = 3; plan(@, 0, 9, 1) = 4")
+        + each(0, 5, "collect(@, 0, 8) = 8") + each(0, 5, "got(@, 0, 0) = 1; got(@, 7, 0) = 8; got(@, 0, 1) = 3; got(@, 7, 1) = 3")
+        + each(0, 5, "step(@) = 4; step(@) = 3; step(@) = 2; step(@) = 1; step(@) = -4; got(@, 0, 0) = 1; got(@, 7, 1) = 3"));
     edge(29, "Of the i-th (0 ..) that a TASK got latest", """
         set() = 0; counter(1, false) = 1; add(0, 1, 1, 1) = 1; collect(0, 0, 8) = 1; got(0, 0, 0) = 1; collect(0, 0, 8) = 0
         got(0, 0, 0) = -1; write(1, 1) = 1; collect(0, 0, 8) = 1; await(0, 0, 1, 1) = -2; got(0, 0, 0) = -1; tick(1) = 1

@@ -6,7 +6,6 @@ import com.sun.source.tree.LambdaExpressionTree;
 import com.sun.source.tree.MemberReferenceTree;
 import com.sun.source.tree.MethodInvocationTree;
 import com.sun.source.tree.MethodTree;
-import com.sun.source.tree.NewArrayTree;
 import com.sun.source.tree.NewClassTree;
 import com.sun.source.tree.SynchronizedTree;
 import com.sun.source.tree.ThrowTree;
@@ -45,8 +44,18 @@ public final class LanguageTest {
       plan(int,int,int,int)int round(int,boolean)boolean rounds(int)int stuck()int soon(int)int calls(int,int)int
       image(int)int back(int)int forget(int)int step(int)int orders(int,int,int)int undo()boolean redo()boolean
       about(int)int""";
-  private static final Set<String> LIBRARY = Set.of("java.lang.System.arraycopy",
-      "java.lang.Math.min", "java.lang.Math.max", "java.lang.Object.<init>");
+  /** Rule 4, class by class; of Integer, Long and Math the static functions whose names do not end in Exact. */
+  private static final Map<String, Set<String>> LIBRARY = Map.of(
+      "java.lang.String", Set.of("length", "charAt", "isEmpty", "equals", "indexOf", "substring", "toCharArray", "<init>"),
+      "java.lang.StringBuilder", Set.of("append", "charAt", "setCharAt", "setLength", "deleteCharAt", "reverse", "length",
+          "toString", "<init>"),
+      "java.util.ArrayList", Set.of("add", "get", "set", "remove", "size", "isEmpty", "clear", "<init>"),
+      "java.util.List", Set.of("add", "get", "set", "remove", "size", "isEmpty", "clear", "of"),
+      "java.lang.System", Set.of("arraycopy"),
+      "java.util.Arrays", Set.of("copyOf", "copyOfRange", "fill"),
+      "Array", Set.of("clone"),
+      "java.lang.Object", Set.of("<init>"));
+  private static final Set<String> NUMBERS = Set.of("java.lang.Integer", "java.lang.Long", "java.lang.Math");
   private static int wrong = 0;
 
   private static void fault(int rule, String what) {
@@ -161,30 +170,25 @@ public final class LanguageTest {
       Element e = trees.getElement(getCurrentPath());
       String owner = e.getEnclosingElement().toString();
       if (owner.startsWith("ReadyBell")) {
-        calls.get(method).add(e);
-      } else if (!LIBRARY.contains(owner + "." + e.getSimpleName())) {
+        if (method != null) calls.get(method).add(e);
+      } else if (!inLibrary(owner.replaceAll("<.*>", ""), e)) {
         fault(4, "line " + line(t, false) + ": " + owner + "." + e.getSimpleName());
       }
       return super.visitMethodInvocation(t, v);
     }
 
+    private static boolean inLibrary(String owner, Element e) {
+      String name = e.getSimpleName().toString();
+      if (NUMBERS.contains(owner)) return e.getModifiers().contains(Modifier.STATIC) && !name.endsWith("Exact");
+      return LIBRARY.getOrDefault(owner, Set.of()).contains(name);
+    }
+
     @Override public Void visitNewClass(NewClassTree t, Void v) {
       Element e = trees.getElement(getCurrentPath());
-      calls.get(method).add(e);
-      checkMaking(t);
+      if (method != null) calls.get(method).add(e);
+      String owner = e.getEnclosingElement().toString();
+      if (!owner.startsWith("ReadyBell") && !inLibrary(owner.replaceAll("<.*>", ""), e)) refuse(4, t);
       return super.visitNewClass(t, v);
-    }
-
-    @Override public Void visitNewArray(NewArrayTree t, Void v) {
-      checkMaking(t);
-      return super.visitNewArray(t, v);
-    }
-
-    /** Nothing is made behind the constructor: a run of calls fits into the room, however long. */
-    private void checkMaking(Tree t) {
-      boolean inConstructor = method != null && method.getKind() == ElementKind.CONSTRUCTOR;
-      boolean helper = method != null && method.getSimpleName().contentEquals("emptyCells");
-      if (!inConstructor && !helper) refuse(12, t);
     }
 
     @Override public Void visitLambdaExpression(LambdaExpressionTree t, Void v) {

@@ -970,42 +970,25 @@ public final class ModelTest {
     throw new IllegalArgumentException(name);
   }
 
-  /** Every question about what is there, so that a wrong state is seen where it comes up. */
-  static String probe(ReadyBell x, Model m) {
-    for (int h = -1; h <= 16; h++) {
-      for (int q = 0; q < 7; q++) {
-        String r = compare(x, m, "handle", h, q);
-        if (r != null) return r;
-      }
-      for (String name : new String[] {"other", "listed", "shows", "depth"}) {
-        String r = compare(x, m, name, h);
-        if (r != null) return r;
-      }
-      if (m.now.setAt(h) == null) continue;
-      int most = Math.max(m.now.held(m.now.setAt(h)).size(), 6);
-      for (int i = 0; i <= most; i++) {
-        String r = compare(x, m, "shown", h, i);
-        if (r == null) r = compare(x, m, "sleeper", h, i);
-        for (int q = 0; q < 11 && r == null; q++) r = compare(x, m, "interest", h, i, q);
-        if (r != null) return r;
-      }
+  /** A question about what is there, so that a wrong state is seen near where it comes up. */
+  static String askSome(ReadyBell x, Model m, Random random) {
+    int h = someHandle(random, m, "012345");
+    int set = someHandle(random, m, "4");
+    int i = random.nextInt(1 + random.nextInt(9));
+    int t = random.nextInt(6);
+    switch (random.nextInt(16)) {
+      case 0: case 1: return compare(x, m, "handle", h, random.nextInt(7));
+      case 2: return compare(x, m, "other", h);
+      case 3: return compare(x, m, "listed", set);
+      case 4: return compare(x, m, "shows", set);
+      case 5: return compare(x, m, "depth", set);
+      case 6: return compare(x, m, "shown", set, i);
+      case 7: return compare(x, m, "sleeper", set, random.nextInt(4));
+      case 8: return compare(x, m, "got", t, i, random.nextInt(2));
+      case 9: case 10: return compare(x, m, "task", t, random.nextInt(10));
+      case 11: return compare(x, m, "about", random.nextInt(8));
+      default: return compare(x, m, "interest", set, i, random.nextInt(10));
     }
-    for (int t = 0; t < 6; t++) {
-      for (int q = 0; q < 11; q++) {
-        String r = compare(x, m, "task", t, q);
-        if (r != null) return r;
-      }
-      for (int i = 0; i < 9; i++) {
-        String r = compare(x, m, "got", t, i, 0);
-        if (r == null) r = compare(x, m, "got", t, i, 1);
-        if (r != null) return r;
-      }
-    }
-    for (int q = 0; q < 8; q++) {
-      String r = compare(x, m, "about", q);
-      if (r != null) return r;
-    }
-    return null;
   }
 
   static String compare(ReadyBell x, Model m, String name, int... a) {
@@ -1014,7 +997,8 @@ public final class ModelTest {
     return got == due ? null : name + Arrays.toString(a) + " answered " + got + ", the model says " + due;
   }
 
-  static boolean run(long seed, int calls) {
+  /** A run of calls, with so many questions behind each one: all of it within the 512 that are promised. */
+  static boolean run(long seed, int calls, int questions) {
     Random random = new Random(seed);
     ReadyBell x = new ReadyBell();
     Model m = new Model();
@@ -1047,7 +1031,8 @@ public final class ModelTest {
       int due = m.call(name, a);
       log.add(name + Arrays.toString(a) + " = " + due);
       COUNTS.merge(name + (due > 0 ? " +" : " " + due), 1, Integer::sum);
-      String wrong = got == due ? probe(x, m) : name + " answered " + got;
+      String wrong = got == due ? null : name + " answered " + got;
+      for (int k = 0; k < questions && wrong == null; k++) wrong = askSome(x, m, random);
       if (wrong != null) {
         System.out.println("seed " + seed + ", behind:");
         for (String line : log) System.out.println("  " + line);
@@ -1061,10 +1046,11 @@ public final class ModelTest {
   static final java.util.TreeMap<String, Integer> COUNTS = new java.util.TreeMap<>();
 
   public static void main(String[] args) {
-    int runs = args.length > 0 ? Integer.parseInt(args[0]) : 150;
+    int runs = args.length > 0 ? Integer.parseInt(args[0]) : 600;
     long first = args.length > 1 ? Long.parseLong(args[1]) : 1;
     for (int k = 0; k < runs; k++) {
-      if (!run(first + k, k % 3 == 0 ? 512 : 160)) System.exit(1);
+      int questions = k % 8 == 0 ? 0 : k % 8 == 1 ? 2 : 7;
+      if (!run(first + k, 512 / (1 + questions), questions)) System.exit(1);
     }
     if (args.length > 2) COUNTS.forEach((what, n) -> System.out.println(what + ": " + n));
     System.out.println(runs + " runs went as the model goes");

@@ -6,34 +6,40 @@ import java.util.TreeSet;
 
 /**
  * Tests of boundary cases, each named by a promise and by the words of the document that it holds to: those stand
- * under the promise or under 'Terms', with " .. " where words are left out.
+ * under the promise or under 'Terms', with " .. " where words are left out. A test extends this to write them plainly.
  */
-final class Edges {
+abstract class Edges {
   private static final Path DOCUMENT = Path.of("../shared/DOC.md");
-  private final String document;
-  private final Set<Integer> tested = new TreeSet<>();
-  private int tests = 0;
-  private int wrong = 0;
+  private static final Set<Integer> tested = new TreeSet<>();
+  private static String document = null;
+  private static int tests = 0;
+  private static int wrong = 0;
 
-  Edges() throws IOException {
-    document = Files.exists(DOCUMENT) ? Files.readString(DOCUMENT).replaceAll("\\s+", " ") : null;
-  }
-
-  void edge(int promise, String words, String script) {
+  static void edge(int promise, String words, String script) {
     tests++;
     tested.add(promise);
     String name = "promise " + promise + " (\"" + words + "\")";
-    if (document != null && !quotes(section("## Promise " + promise + ":"), words) && !quotes(section("## Terms"), words)) {
+    if (Files.exists(DOCUMENT) && !quotes(section("## Promise " + promise + ":"), words)
+        && !quotes(section("## Terms"), words)) {
       wrong++;
       System.out.println(name + ": these words are not in the document");
     }
     wrong += Runs.wrongIn(name, script);
   }
 
-  private String section(String heading) {
+  private static String section(String heading) {
+    if (document == null) document = read();
     int from = document.indexOf(heading);
     int to = document.indexOf(" ## ", from + 1);
     return from < 0 ? "" : document.substring(from, to < 0 ? document.length() : to);
+  }
+
+  private static String read() {
+    try {
+      return Files.readString(DOCUMENT).replaceAll("\\s+", " ");
+    } catch (IOException e) {
+      throw new IllegalStateException(e);
+    }
   }
 
   private static boolean quotes(String section, String words) {
@@ -47,7 +53,7 @@ final class Edges {
   }
 
   /** Ends the program with 1 if something is wrong, or a promise from the first to the last has no test. */
-  void end(int first, int last) {
+  static void end(int first, int last) {
     for (int p = first; p <= last; p++) {
       if (!tested.contains(p)) {
         wrong++;
