@@ -16,6 +16,7 @@ public final class BoundaryHandlesTest extends Edges {
     writingCounters();
     reading();
     readingCountersAndTimers();
+    behindAnother();
     arming();
     ticking();
     end(1, 14);
@@ -52,6 +53,14 @@ public final class BoundaryHandlesTest extends Edges {
         pipe(5) = 0; handle(0, 1) = 0; write(1, 5) = 5; close(0) = 1; close(1) = 1
         pipe(3) = 0; handle(0, 1) = 0; handle(1, 1) = 0; handle(0, 2) = 0; handle(1, 2) = 2; write(1, 9) = 3
         """);
+    StringBuilder eight = new StringBuilder();
+    for (int k = 1; k <= 8; k++) {
+      eight.append("pipe(" + (k + 9) + ") = " + (2 * k - 2) + "; write(" + (2 * k - 1) + ", " + k + ") = " + k + "\n");
+    }
+    for (int k = 1; k <= 8; k++) {
+      eight.append("handle(" + (2 * k - 2) + ", 1) = " + k + "; handle(" + (2 * k - 1) + ", 5) = " + (k + 9) + "\n");
+    }
+    edge(2, "A PIPE holds bytes, up to its room", eight.toString());
     edge(2, "NONE, doing nothing, if there are not two", each(0, 13, "set() = @") + """
         pipe(1) = 14; close(15) = 1; pipe(1) = -1 !   # one is left
         set() = 15; pipe(1) = -1 !                    # none is left
@@ -72,6 +81,8 @@ public final class BoundaryHandlesTest extends Edges {
         counter(7, true) = 0; counter(7, false) = 1; handle(0, 5) = 1; handle(1, 5) = 0; read(0, 1) = 1; read(1, 1) = 7
         close(0) = 1; counter(7, false) = 0; handle(0, 5) = 0; read(0, 1) = 7
         """);
+    edge(3, "A COUNTER of a value (0 .. 1000), by ones or not", each(0, 15, "counter(@, true) = @")
+        + each(0, 15, "handle(@, 1) = @; handle(@, 5) = 1"));
     edge(3, "NONE, doing nothing, if it can't be", """
         timer() = 0; timer() = 1; undo() = 1; counter(-1, true) = -1 !; counter(1001, true) = -1 !
         counter(-1, false) = -1 !; counter(1001, false) = -1 !; counter(MAX, true) = -1 !; counter(MIN, false) = -1 !
@@ -91,6 +102,9 @@ public final class BoundaryHandlesTest extends Edges {
         arm(0, 1, 1) = 1; tick(2) = 102; close(0) = 1; timer() = 0; handle(0, 5) = -1; handle(0, 1) = 0
         handle(0, 2) = 0; tick(100) = 202; handle(0, 1) = 0
         """);
+    edge(4, "A TIMER, which is not set: its HANDLE", each(0, 15, "timer() = @; handle(@, 5) = -1; arm(@, 10, 20) = 1")
+        + each(0, 15, "handle(@, 5) = 10") + "tick(9) = 9\n" + each(0, 15, "handle(@, 1) = 0") + "tick(1) = 10\n"
+        + each(0, 15, "handle(@, 1) = 1; handle(@, 5) = 30"));
     edge(4, "NONE, doing nothing, if there is none left", each(0, 14, "set() = @") + """
         timer() = 15; timer() = -1 !; close(7) = 1; timer() = 7; timer() = -1 !
         """);
@@ -108,6 +122,12 @@ public final class BoundaryHandlesTest extends Edges {
     edge(6, "A LISTENER with a backlog (1 .. 12)", "listener(1, 5) = 0; handle(0, 5) = 1; connect(0) = 1; connect(0) = -2");
     edge(6, "A LISTENER with a backlog (1 .. 12)", "listener(12, 5) = 0; handle(0, 5) = 12\n"
         + each(1, 12, "connect(0) = @") + "connect(0) = -2; handle(0, 1) = 12");
+    StringBuilder twelve = new StringBuilder();
+    for (int h = 0; h < 12; h++) twelve.append("listener(" + (h + 1) + ", " + (h + 50) + ") = " + h + "\n");
+    for (int h = 0; h < 12; h++) twelve.append("handle(" + h + ", 5) = " + (h + 1) + "; handle(" + h + ", 1) = 0\n");
+    edge(6, "A LISTENER with a backlog (1 .. 12), at which PIPES of a room", twelve + """
+        connect(3) = 12; handle(12, 5) = 53; connect(11) = 13; handle(13, 5) = 61; connect(0) = 14; connect(0) = -2
+        """);
     edge(6, "at which PIPES of a room (1 .. 100) are made", """
         listener(3, 1) = 0; listener(3, 100) = 1; connect(0) = 2; connect(1) = 3; handle(2, 5) = 1; handle(3, 5) = 100
         write(2, 100) = 1; write(3, 100) = 100; write(3, 1) = 0; accept(0) = 4; accept(1) = 5; handle(4, 5) = 1
@@ -183,8 +203,13 @@ public final class BoundaryHandlesTest extends Edges {
         other(8) = 4; accept(1) = 9; other(9) = 5; handle(0, 1) = 0; handle(1, 1) = 0
         """);
     edge(8, "Who waited longest at a LISTENER", """
-        set() = 0; listener(3, 5) = 1; connect(1) = 2; close(0) = 1; connect(1) = 0; accept(1) = 3; other(3) = 2
-        accept(1) = 4; other(4) = 0   # not the lowest HANDLE
+        set() = 0; set() = 1; listener(3, 5) = 2; connect(2) = 3; close(1) = 1; connect(2) = 1; close(0) = 1; connect(2) = 0
+        accept(2) = 4; other(4) = 3; accept(2) = 5; other(5) = 1; accept(2) = 6; other(6) = 0   # not the lowest HANDLE
+        """);
+    edge(8, "waits no more: a HANDLE that names it", """
+        listener(3, 5) = 0; set() = 1; add(1, 0, 3, 1) = 1; connect(0) = 2; connect(0) = 3; collect(0, 1, 1) = 1
+        accept(0) = 4; listed(1) = 0; interest(1, 0, 7) = 2; handle(0, 2) = 1; accept(0) = 5; interest(1, 0, 7) = 2
+        handle(0, 2) = 0; interest(1, 0, 5) = 0   # no NOTICE goes out
         """);
     edge(8, "a HANDLE that names it", """
         listener(3, 5) = 0; connect(0) = 1; set() = 2; set() = 3; close(2) = 1; accept(0) = 2; handle(2, 0) = 0
@@ -201,7 +226,8 @@ public final class BoundaryHandlesTest extends Edges {
         + "accept(0) = -1 !; close(9) = 1; accept(0) = -2 !");
     edge(8, "else -2, doing nothing, if none waits", """
         listener(3, 5) = 0; accept(0) = -2 !; connect(0) = 1; undo() = 1; accept(0) = -2 !; redo() = 1; accept(0) = 2
-        accept(0) = -2 !; listener(3, 5) = 3; connect(3) = 4; accept(0) = -2 !
+        accept(0) = -2 !; listener(3, 5) = 3; connect(3) = 4; accept(0) = -2 !; timer() = 5; arm(5, 1, 1) = 1; tick(3) = 3
+        accept(0) = -2 !; accept(3) = 6; accept(3) = -2 !
         """);
   }
 
@@ -443,6 +469,18 @@ public final class BoundaryHandlesTest extends Edges {
         set() = 0; timer() = 1; add(0, 1, 3, 1) = 1; read(1, 1) = 0 !; arm(1, 2, 2) = 1; read(1, 1) = 0 !; tick(1) = 1
         read(1, 100) = 0 !; tick(100) = 101; collect(0, 0, 1) = 1; read(1, 1) = 50; handle(1, 1) = 0; handle(1, 2) = 0
         handle(1, 5) = 102; listed(0) = 0; interest(0, 0, 7) = 50; read(1, 1) = 0 !; tick(1) = 102; read(1, 1) = 1
+        """);
+  }
+
+  /** What an OBJECT was that is GONE tells nothing of the one that comes behind it. */
+  private static void behindAnother() {
+    edge(12, "TIMER: how often it fired (0 then)", """
+        counter(5, true) = 0; close(0) = 1; timer() = 0; arm(0, 1, 1) = 1; tick(3) = 3; read(0, 1) = 3; handle(0, 1) = 0
+        close(0) = 1; counter(7, false) = 0; read(0, 1) = 7; handle(0, 5) = 0; tick(5) = 8; handle(0, 1) = 0
+        """);
+    edge(8, "else -2, doing nothing, if none waits", """
+        set() = 0; listener(3, 5) = 1; timer() = 2; arm(2, 1, 1) = 1; accept(1) = -2 !; tick(3) = 3; accept(1) = -2 !
+        handle(1, 1) = 0; close(2) = 1; connect(1) = 2; handle(2, 0) = 1; handle(2, 1) = 0; handle(2, 2) = 2
         """);
   }
 

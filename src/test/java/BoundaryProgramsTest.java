@@ -117,6 +117,10 @@ public final class BoundaryProgramsTest extends Edges {
         soon(0) = -1 !; arm(1, 1, 0) = 1; soon(0) = 8 !; arm(1, 5, 1) = 1; soon(0) = 12 !; plan(0, 1, 1, 1) = 1
         soon(0) = 12; about(2) = 7
         """);
+    edge(35, "TIME alone going on", """
+        set() = 0; timer() = 1; counter(0, true) = 2; add(0, 1, 1, 0) = 1; add(0, 2, 1, 0) = 2; arm(1, 9, 0) = 1
+        plan(0, 0, 2, 1) = 1; soon(0) = 9 !; rounds(1) = 1; soon(0) = 0 !   # no STEPS are done
+        """);
     edge(35, "(now, if it SHOWS some)", """
         set() = 0; counter(1, false) = 1; timer() = 2; add(0, 2, 1, 0) = 1; arm(2, 3, 0) = 1; soon(0) = 3
         add(0, 1, 1, 1) = 2; soon(0) = 0 !; tick(2) = 2; soon(0) = 2 !; collect(0, 0, 1) = 1; soon(0) = 3 !

@@ -145,10 +145,18 @@ public final class BoundarySetsTest extends Edges {
         add(14, 0, 1, 0) = -4 !; drop(1, 13) = 1; add(14, 15, 1, 0) = 1; about(1) = 24; add(1, 13, 1, 0) = -4 !
         close(2) = 1; about(1) = 22; add(1, 13, 1, 0) = 11
         """);
+    edge(16, "false, doing nothing, if there is none such", full + """
+        set() = 14; change(0, 14, 2, 1) = 0 !; change(14, 2, 2, 1) = 0 !; drop(0, 14) = 0 !; drop(14, 2) = 0 !
+        interest(1, 11, 0) = 13; interest(1, 11, 1) = 1; interest(1, 11, 2) = 0
+        """);
     edge(15, "NONE, doing nothing, .. else -2, .. else -3, .. else -4", full + """
         add(0, 2, 4, 0) = -1; add(0, 0, 1, 0) = -1; add(0, 15, 1, 0) = -1; add(0, 2, 1, 0) = -2 !; drop(1, 2) = 1
         add(0, 1, 1, 0) = 13; add(1, 0, 1, 0) = -3 !; add(1, 2, 1, 0) = -4 !
         """);
+    edge(15, "A SET holds INTERESTS (in all SETS together at most 24)", full.replace("counter(0,", "counter(1,")
+        .replace(", 1, 0)", ", 3, 5)") + each(0, 11, "interest(0, @, 1) = 3; interest(0, @, 2) = 5; interest(1, @, 2) = 5")
+        + "collect(0, 1, 8) = 8; collect(1, 1, 8) = 4\n" + each(2, 13, "write(@, 1) = 1") + each(0, 11,
+        "interest(1, @, 8) = 1; interest(1, @, 7) = 1; interest(0, @, 7) = 1; interest(0, @, 8) = 0; interest(1, @, 3) = 1"));
     edge(15, "A SET holds INTERESTS (in all SETS together at most 24)", full + each(2, 13, "write(@, 1) = 1")
         + "listed(0) = 12; listed(1) = 12; shown(1, 11) = 13; interest(0, 11, 7) = 1; interest(1, 11, 7) = 1");
   }
