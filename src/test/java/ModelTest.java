@@ -957,7 +957,15 @@ public final class ModelTest {
     {"set", "set", "set", "set", "counter", "pipe", "add", "add", "add", "add", "add", "add", "add", "add"},
     {"set", "set", "timer", "timer", "add", "add", "add", "arm", "arm", "await", "soon", "tick"},
     {"set", "listener", "listener", "connect", "connect", "add", "add", "add", "add", "connect", "close", "close"},
-    {"set", "pipe", "counter", "add", "add", "plan", "plan", "plan", "plan", "plan", "plan", "plan", "plan"}};
+    {"set", "pipe", "counter", "add", "add", "plan", "plan", "plan", "plan", "plan", "plan", "plan", "plan"},
+    crowded()};
+
+  /** So many that 24 interests are reached. */
+  private static String[] crowded() {
+    String[] all = new String[70];
+    for (int k = 0; k < all.length; k++) all[k] = k < 3 ? "set" : k < 14 ? "counter" : k == 14 ? "timer" : "add";
+    return all;
+  }
 
   /** Some calls tell more where several stand together. */
   static String[] again(Random random, String[] call, String one, String two) {
